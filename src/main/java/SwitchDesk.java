@@ -995,6 +995,8 @@ public final class SwitchDesk {
         private final int[] sums = new int[ROW];
         // By from * ROW + to: the least cost of that part.
         private final int[] leasts = new int[ROW * ROW];
+        // By the group: the letter before which it ends.
+        private final int[] ends = new int[Tray.MOST];
 
         Plan(Tape tape, Numbers numbers) {
             this.tape = tape;
@@ -1051,25 +1053,35 @@ public final class SwitchDesk {
             return from >= 0 && from < to && to < ROW;
         }
 
+        /** Puts the row into an empty tray; solve has been asked before. */
         void build(Tray tray) {
-            fillGroup(tray, 0, 0, tape.size(), 0);
-        }
-
-        private void fillGroup(Tray tray, int group, int from, int to, int depth) {
-            if (depth >= Tape.MOST) {
-                return;
-            }
-            int start = from;
-            for (int i = 0; i < Tape.MOST && start < to; i++) {
-                int stop = firstEnd(start, to);
+            int letters = tape.size();
+            int start = 0;
+            int group = 0;
+            ends[0] = letters;
+            for (int i = 0; i < Tray.MOST && start < letters; i++) {
+                group = openAt(start, group, tray);
+                int stop = firstEnd(start, ends[group]);
                 if (stop - start == 1) {
                     tray.add(group, LETTER, tape.signAt(start));
+                    start = stop;
                 } else {
-                    int inner = tray.add(group, GROUP, 0);
-                    fillGroup(tray, inner, start, stop, depth + 1);
+                    group = tray.add(group, GROUP, NONE);
+                    if (group == NONE) {
+                        return;
+                    }
+                    ends[group] = stop;
                 }
-                start = stop;
             }
+        }
+
+        // A letter stands in the innermost group that does not end before it.
+        private int openAt(int start, int group, Tray tray) {
+            int open = group;
+            for (int i = 0; i < Tray.MOST && open > 0 && ends[open] <= start; i++) {
+                open = tray.groupOf(open);
+            }
+            return Math.max(open, 0);
         }
     }
 }

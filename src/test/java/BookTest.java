@@ -11,6 +11,8 @@ public final class BookTest {
         near();
         counts();
         longWritten();
+        twelveOffered();
+        fortyLongWords();
         Check.close();
     }
 
@@ -261,5 +263,29 @@ public final class BookTest {
         Check.due("thirteen written", x.count(3), 13);
         order("thirteen", x);
         offers("thirteen", x);
+    }
+
+    private static void twelveOffered() {
+        SwitchDesk x = new SwitchDesk();
+        Check.letters(x, 0, "ab");
+        Check.word(x, "abbbbbbbbbbb", 1);
+        Check.word(x, "bbbbbbbbbbba", 2);
+        for (int i = 0; i < 12; i++) {
+            Check.take(x, 2);
+        }
+        offers("twelve of b", x, 1, 0);
+        Check.take(x, 2);
+        offers("thirteen of b", x);
+    }
+
+    private static void fortyLongWords() {
+        SwitchDesk x = new SwitchDesk();
+        for (int i = 0; i < 40; i++) {
+            String letters = "abcdefghij" + (char) (97 + i / 26) + (char) (97 + i % 26);
+            Check.due(letters, Check.word(x, letters, 0), i);
+        }
+        Check.due("the last letter of all", Check.letter(x, 39, 11), 'n');
+        Check.due("none behind it", Check.letter(x, 39, 12), Check.NO_SUCH);
+        Check.due("alike counts stand as told", x.foreseen(39), 39);
     }
 }

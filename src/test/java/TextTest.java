@@ -14,6 +14,7 @@ public final class TextTest {
         hundredActs();
         fullForeseen();
         offeredKey();
+        fullOffered();
         Check.close();
     }
 
@@ -197,5 +198,23 @@ public final class TextTest {
         texts("taken back", x, "a bb", "none", 4);
         Check.take(x, 5);
         texts("the first one, without 32", x, "a ab", "none", 5);
+    }
+
+    private static void fullOffered() {
+        SwitchDesk x = new SwitchDesk();
+        x.node(0, 1, 32);
+        Check.letters(x, 0, "ab");
+        x.node(0, 6, 0);
+        x.node(0, 4, 0);
+        Check.word(x, "a", 1);
+        for (int i = 0; i < 199; i++) {
+            x.press();
+        }
+        Check.take(x, 5);
+        Check.due("a letter and 32 are too long", x.length(0), 199);
+        Check.take(x, 3);
+        Check.take(x, 4);
+        Check.due("as long as before", x.length(0), 200);
+        Check.due("the word offered", Check.at(x, 0, 199), 'a');
     }
 }
