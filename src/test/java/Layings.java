@@ -6,6 +6,7 @@ final class Layings {
     private final int[] shares;
     private final int span;
     private final int price;
+    private final List<String> bests = new ArrayList<>();
     private String best = null;
     private int least = 0;
 
@@ -22,6 +23,12 @@ final class Layings {
 
     private void offer(String tray) {
         int sum = sum(tray);
+        if (best != null && sum < least) {
+            bests.clear();
+        }
+        if (best == null || sum <= least) {
+            bests.add(tray);
+        }
         if (best == null || sum < least || sum == least && before(items(tray), items(best)) < 0) {
             best = tray;
             least = sum;
@@ -34,6 +41,20 @@ final class Layings {
 
     String tray() {
         return best;
+    }
+
+    /** Whether another least tray has a first item of as many letters, but not the same (0), or the same and another rest (1). */
+    boolean tiesDiffer(int where) {
+        String first = items(best).get(0);
+        for (String other : bests) {
+            String otherFirst = items(other).get(0);
+            boolean differ = where == 0 ? count(otherFirst) == count(first) && !otherFirst.equals(first)
+                : otherFirst.equals(first) && !other.equals(best);
+            if (differ) {
+                return true;
+            }
+        }
+        return false;
     }
 
     /** All rows of keys and groups that have these letters; a group has two or more in it. */
