@@ -18,14 +18,6 @@ public final class BookTest {
         return "abcdefghij" + (char) ('a' + i / 26) + (char) ('a' + i % 26);
     }
 
-    private static String word(SwitchDesk x, int w) {
-        StringBuilder s = new StringBuilder();
-        for (int i = 0; Check.letter(x, w, i) != Check.NO_SUCH; i++) {
-            s.append((char) x.letter(w, i));
-        }
-        return s.toString();
-    }
-
     // ---- 13: word
 
     @Says("The TAPE (empty then) is a WORD with a count: its number")
@@ -33,7 +25,7 @@ public final class BookTest {
         SwitchDesk x = new SwitchDesk();
         Check.due("the first", Check.word(x, "ab", 1), 0);
         Check.due("the second", Check.word(x, "b", 1), 1);
-        Check.due("words", word(x, 0) + " " + word(x, 1), "ab b");
+        Check.due("words", Check.spelled(x, 0) + " " + Check.spelled(x, 1), "ab b");
     }
 
     @Says("The TAPE (empty then) is a WORD with a count: its number")
@@ -58,7 +50,7 @@ public final class BookTest {
         SwitchDesk x = new SwitchDesk();
         Check.due("one", Check.word(x, "a", 1), 0);
         Check.due("twelve", Check.word(x, "abcdefghijkl", 1), 1);
-        Check.due("words", word(x, 0) + " " + word(x, 1), "a abcdefghijkl");
+        Check.due("words", Check.spelled(x, 0) + " " + Check.spelled(x, 1), "a abcdefghijkl");
     }
 
     @Says("1 .. 12 letters a .. z")
@@ -162,7 +154,7 @@ public final class BookTest {
         SwitchDesk x = forty();
         Check.due("count(1)", x.count(1), 40);
         for (int i = 0; i < 40; i++) {
-            Check.due("word " + i, word(x, i), fortieth(i));
+            Check.due("word " + i, Check.spelled(x, i), fortieth(i));
         }
     }
 

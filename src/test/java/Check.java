@@ -128,6 +128,15 @@ final class Check {
         return x.word(count);
     }
 
+    /** The letters of a word, to the first that is none. */
+    static String spelled(SwitchDesk x, int w) {
+        StringBuilder s = new StringBuilder();
+        for (int i = 0; letter(x, w, i) != NO_SUCH; i++) {
+            s.append((char) x.letter(w, i));
+        }
+        return s.toString();
+    }
+
     static int lay(SwitchDesk x, String letters) {
         feed(x, letters);
         return x.lay();

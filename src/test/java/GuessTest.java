@@ -161,6 +161,13 @@ public final class GuessTest {
     }
 
     @Says("the WORDS as long as it")
+    private static void promise16_oneLetterWritten() {
+        SwitchDesk x = book("b", "c", "ab");
+        written(x, "a", "ab");
+        Check.due("offered", Check.offered(x), "0");
+    }
+
+    @Says("the WORDS as long as it")
     private static void promise16_shorterAndLongerWordsAreNotOffered() {
         SwitchDesk x = book("b", "bb", "bbb", "a");
         written(x, "ab", "ab");

@@ -151,6 +151,17 @@ public final class KeysTest {
     }
 
     @Says("SAY: THE TEXT is what was SAID, and is empty.")
+    private static void promise07_oneLetterIsSaidBehindAnEmptyText() {
+        SwitchDesk x = new SwitchDesk();
+        Check.only(x, SAY, 0, 1);
+        Check.write(x, "a");
+        Check.only(x, SAY, 0, 1);
+        Check.texts(x, "", "a", 3);
+        Check.only(x, UNDO, 0, 1);
+        Check.texts(x, "a", "", 2);
+    }
+
+    @Says("SAY: THE TEXT is what was SAID, and is empty.")
     private static void promise07_theSameTextSaidAgainIsAnAct() {
         SwitchDesk x = new SwitchDesk();
         Check.write(x, "a");
@@ -388,6 +399,15 @@ public final class KeysTest {
         SwitchDesk z = slips("ab", "ab", "bb");
         takeOffered(z, 0);
         Check.texts(z, "ab", "none", 2);
+    }
+
+    @Says("slips by a neighbour's light read and offered but never put in unasked")
+    private static void promise07_foreseenWithoutSuchAWordOffersNone() {
+        SwitchDesk x = slips("aa", "ab", "bb");
+        int key = x.node(0, FORESEEN, 0);
+        Check.due("offered", Check.offered(x), "0 1");
+        Check.due("FORESEEN", Check.take(x, key), key);
+        Check.texts(x, "aa", "none", 2);
     }
 
     @Says("OFFERED k: the k-th word offered instead of WRITTEN")

@@ -44,10 +44,7 @@ final class Probe {
 
     private void book() {
         for (int w = 0; w < x.count(1); w++) {
-            seen.append(' ');
-            for (int i = 0; Check.letter(x, w, i) != Check.NO_SUCH; i++) {
-                seen.append((char) x.letter(w, i));
-            }
+            seen.append(' ').append(Check.spelled(x, w));
         }
     }
 
@@ -87,9 +84,7 @@ final class Probe {
             x.end(n);
             int w = x.word(1);
             add("word", w);
-            for (int i = 0; w >= 0 && i < n; i++) {
-                seen.append((char) Check.letter(x, w, i));
-            }
+            seen.append(Check.spelled(x, w));
         }
         x.end(0);
     }

@@ -6,12 +6,7 @@ public final class TapeTest {
 
     /** The tape, at most 12 letters, as the next word of the book; the tape is empty then. */
     private static String shown(SwitchDesk x) {
-        int w = x.word(0);
-        StringBuilder s = new StringBuilder();
-        for (int i = 0; Check.letter(x, w, i) != Check.NO_SUCH; i++) {
-            s.append((char) x.letter(w, i));
-        }
-        return s.toString();
+        return Check.spelled(x, x.word(0));
     }
 
     // ---- 11: feed
