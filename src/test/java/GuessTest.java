@@ -160,6 +160,28 @@ public final class GuessTest {
         Check.due("aa is a word now", Check.offered(x), "");
     }
 
+    @Says("if WRITTEN is no WORD and is not empty")
+    private static void promise16_noneWhenWrittenIsAWordOfTwelveLetters() {
+        SwitchDesk x = book("aaaaaaaaaaab", "aaaaaaaaaaaa");
+        Check.only(x, 1, 'a', 12);
+        written(x, "", "ab");
+        Check.due("count(3)", x.count(3), 12);
+        Check.due("offered", Check.offered(x), "");
+    }
+
+    @Says("the WORDS as long as it")
+    private static void promise16_shorterWrittenBehindLonger() {
+        SwitchDesk x = book("ab", "bbbb");
+        written(x, "aabb", "ab");
+        Check.due("aabb", Check.offered(x), "1");
+        Check.only(x, 2, 0, 2);
+        written(x, "", "ab");
+        Check.due("aa", Check.offered(x), "0");
+        Check.due("foreseen", Check.foreseen(x), "");
+        Check.only(x, 2, 0, 1);
+        Check.due("a", Check.foreseen(x), "0");
+    }
+
     @Says("the WORDS as long as it")
     private static void promise16_oneLetterWritten() {
         SwitchDesk x = book("b", "c", "ab");
