@@ -9,10 +9,10 @@ import java.util.TreeSet;
 public final class FaceTest {
     private static final String[] FACE = {
         "int node(int,int,int)", "void clear()", "int told(int,int)", "boolean set(int,int)", "int tick(int)",
-        "int press()", "int state(int)", "int length(int)", "int at(int,int)", "int feed(int,int)",
-        "boolean end(int)", "int word(int)", "int letter(int,int)", "int foreseen(int)", "int offered(int)",
-        "int near(int,int)", "boolean share(int,int)", "int cost(int)", "long mean(int)", "int lay()",
-        "int count(int)"};
+        "int press()", "int state(int)", "int length(int)", "int at(int,int) throws NoSuchElementException",
+        "int feed(int,int)", "boolean end(int)", "int word(int)", "int letter(int,int) throws NoSuchElementException",
+        "int foreseen(int)", "int offered(int)", "int near(int,int)", "boolean share(int,int)", "int cost(int)",
+        "long mean(int)", "int lay()", "int count(int)"};
 
     public static void main(String[] args) {
         Set<String> want = new TreeSet<>(Set.of(FACE));
@@ -23,7 +23,7 @@ public final class FaceTest {
         Set<String> got = new TreeSet<>();
         for (Method m : SwitchDesk.class.getDeclaredMethods()) {
             if (!Modifier.isPrivate(m.getModifiers())) {
-                got.add(m.toString().replaceAll("public |SwitchDesk\\.| throws .*", ""));
+                got.add(m.toString().replaceAll("public |SwitchDesk\\.|java\\.util\\.", ""));
             }
         }
         Check.due("methods", got.toString(), want.toString());
@@ -34,6 +34,9 @@ public final class FaceTest {
         for (Field f : SwitchDesk.class.getDeclaredFields()) {
             boolean open = !Modifier.isPrivate(f.getModifiers());
             Check.due("field " + f.getName(), open, f.getName().equals("NONE"));
+            if (open) {
+                Check.due("constant", f.toString(), "public static final int SwitchDesk.NONE");
+            }
         }
         Check.due("NONE", SwitchDesk.NONE, -1);
         Check.due("classes inside, at most 11", SwitchDesk.class.getDeclaredClasses().length <= 11, true);
